@@ -125,15 +125,9 @@ public final class CostumeStock {
     // ---- rows
 
     public int write(int t, int i, int v) {
-        Thing thing = thingAt(t);
-        if (thing == null) {
-            return refuse(NO_SUCH);
-        }
-        if (!(thing instanceof Row row)) {
-            return refuse(WRONG_KIND);
-        }
-        if (!row.hasPlace(i)) {
-            return refuse(BEYOND);
+        Row row = rowFor(t, i);
+        if (row == null) {
+            return -1;
         }
         if (row.kind == FLOATS && !isTenths(v)) {
             return refuse(BAD_NUMBER);
@@ -143,15 +137,9 @@ public final class CostumeStock {
     }
 
     public int value(int t, int i) {
-        Thing thing = thingAt(t);
-        if (thing == null) {
-            return refuse(NO_SUCH);
-        }
-        if (!(thing instanceof Row row)) {
-            return refuse(WRONG_KIND);
-        }
-        if (!row.hasPlace(i)) {
-            return refuse(BEYOND);
+        Row row = rowFor(t, i);
+        if (row == null) {
+            return -1;
         }
         int v = row.values[i];
         if (row.kind != FLOATS) {
@@ -192,11 +180,9 @@ public final class CostumeStock {
         if (thing == null) {
             return refuse(NO_SUCH);
         }
-        enterHouse();
-        enterHolder();
+        enterBoth();
         int answer = putLocked(into, s, thing);
-        leaveLock();
-        leaveLock();
+        leaveBoth();
         return answer;
     }
 
@@ -205,11 +191,9 @@ public final class CostumeStock {
         if (from == null) {
             return refuse(NO_HOLDER);
         }
-        enterHouse();
-        enterHolder();
+        enterBoth();
         int answer = takeLocked(from, s);
-        leaveLock();
-        leaveLock();
+        leaveBoth();
         return answer;
     }
 
@@ -218,23 +202,20 @@ public final class CostumeStock {
         if (where == null) {
             return refuse(NO_HOLDER);
         }
-        enterHouse();
-        enterHolder();
+        enterBoth();
         int answer = insideLocked(where, s);
-        leaveLock();
-        leaveLock();
+        leaveBoth();
         return answer;
     }
 
     // ---- sizes
 
     public int size(int t, int part, int n) {
-        int why = whyNoPart(t, part);
-        if (why != DONE) {
-            return refuse(why);
+        Garment garment = garmentFor(t, part);
+        if (garment == null) {
+            return -1;
         }
-        Garment garment = garmentAt(t);
-        if (garment == null || !isWithin(n, 0, MOST_SIZE)) {
+        if (!isWithin(n, 0, MOST_SIZE)) {
             return refuse(BAD_NUMBER);
         }
         int before = garment.sizes[part];
@@ -244,12 +225,11 @@ public final class CostumeStock {
     }
 
     public int reach(int t, int part, int in, int out) {
-        int why = whyNoPart(t, part);
-        if (why != DONE) {
-            return refuse(why);
+        Garment garment = garmentFor(t, part);
+        if (garment == null) {
+            return -1;
         }
-        Garment garment = garmentAt(t);
-        if (garment == null || !isWithin(in, 0, MOST_REACH) || !isWithin(out, 0, MOST_REACH)) {
+        if (!isWithin(in, 0, MOST_REACH) || !isWithin(out, 0, MOST_REACH)) {
             return refuse(BAD_NUMBER);
         }
         remember(new Resize(garment, part, spent));
@@ -259,12 +239,11 @@ public final class CostumeStock {
     }
 
     public int alter(int t, int part, int steps) {
-        int why = whyNoPart(t, part);
-        if (why != DONE) {
-            return refuse(why);
+        Garment garment = garmentFor(t, part);
+        if (garment == null) {
+            return -1;
         }
-        Garment garment = garmentAt(t);
-        if (garment == null || garment.sizes[part] == 0) {
+        if (garment.sizes[part] == 0) {
             return refuse(NO_FIT);
         }
         if (!garment.canAlter(part, steps)) {
@@ -280,12 +259,11 @@ public final class CostumeStock {
     }
 
     public int sizeOf(int t, int part, int what) {
-        int why = whyNoPart(t, part);
-        if (why != DONE) {
-            return refuse(why);
+        Garment garment = garmentFor(t, part);
+        if (garment == null) {
+            return -1;
         }
-        Garment garment = garmentAt(t);
-        if (garment == null || !isWithin(what, 0, 2)) {
+        if (!isWithin(what, 0, 2)) {
             return refuse(BAD_NUMBER);
         }
         switch (what) {
@@ -435,11 +413,9 @@ public final class CostumeStock {
         if (thing.state != IN_SLOT) {
             return refuse(WRONG_STATE);
         }
-        enterHouse();
-        enterHolder();
+        enterBoth();
         int answer = hireLocked(thing, cents);
-        leaveLock();
-        leaveLock();
+        leaveBoth();
         return answer;
     }
 
@@ -452,11 +428,9 @@ public final class CostumeStock {
         if (into == null) {
             return refuse(NO_HOLDER);
         }
-        enterHouse();
-        enterHolder();
+        enterBoth();
         int answer = backLocked(open, into, s, cents);
-        leaveLock();
-        leaveLock();
+        leaveBoth();
         return answer;
     }
 
@@ -568,10 +542,6 @@ public final class CostumeStock {
         return t >= 0 && t < thingCount ? things[t] : null;
     }
 
-    private Garment garmentAt(int t) {
-        return thingAt(t) instanceof Garment garment ? garment : null;
-    }
-
     private Holder holderAt(int h) {
         if (h >= FIRST_BOX) {
             Thing box = thingAt(h - FIRST_BOX);
@@ -589,16 +559,43 @@ public final class CostumeStock {
         return hire != null && hire.stage == HIRE_OPEN ? hire : null;
     }
 
-    private int whyNoPart(int t, int part) {
+    // ---- looking up with the refusals on the way: null where it is refused, and the STATUS says why
+
+    private Row rowFor(int t, int i) {
         Thing thing = thingAt(t);
         if (thing == null) {
-            return NO_SUCH;
+            refuse(NO_SUCH);
+            return null;
         }
-        if (!(thing instanceof Garment)) {
-            return WRONG_KIND;
+        if (thing instanceof Row row) {
+            if (row.hasPlace(i)) {
+                return row;
+            }
+            refuse(BEYOND);
+            return null;
         }
-        return isPart(part) ? DONE : BEYOND;
+        refuse(WRONG_KIND);
+        return null;
     }
+
+    private Garment garmentFor(int t, int part) {
+        Thing thing = thingAt(t);
+        if (thing == null) {
+            refuse(NO_SUCH);
+            return null;
+        }
+        if (thing instanceof Garment garment) {
+            if (isPart(part)) {
+                return garment;
+            }
+            refuse(BEYOND);
+            return null;
+        }
+        refuse(WRONG_KIND);
+        return null;
+    }
+
+    // ---- numbers
 
     private static boolean isWithin(int n, int least, int most) {
         return n >= least && n <= most;
@@ -653,6 +650,16 @@ public final class CostumeStock {
         locksNow--;
     }
 
+    private void enterBoth() {
+        enterHouse();
+        enterHolder();
+    }
+
+    private void leaveBoth() {
+        leaveLock();
+        leaveLock();
+    }
+
     private void enterRacks() {
         enterHouse();
         for (int r = 0; r < rackCount; r++) {
@@ -680,7 +687,7 @@ public final class CostumeStock {
         if (why != DONE) {
             return refuse(why);
         }
-        remember(new Move(thing, purse, null));
+        remember(new Move(thing, purse, null, HIRE_OPEN));
         thing.moveTo(IN_SLOT, into, s);
         return done(1);
     }
@@ -693,7 +700,7 @@ public final class CostumeStock {
         if (thing == null) {
             return refuse(NOTHING_THERE);
         }
-        remember(new Move(thing, purse, null));
+        remember(new Move(thing, purse, null, HIRE_OPEN));
         thing.moveTo(AT_HAND, null, 0);
         return done(thing.number);
     }
@@ -712,12 +719,9 @@ public final class CostumeStock {
         }
         int number = hireCount;
         Hire hire = new Hire(thing, cents);
-        // Undone, its number stays given: the HIRE must be closed then.
-        hire.stage = HIRE_UNDONE;
-        remember(new Move(thing, purse, hire));
-        hire.stage = HIRE_OPEN;
         hires[number] = hire;
         hireCount++;
+        remember(new Move(thing, purse, hire, HIRE_UNDONE));
         thing.moveTo(OUT, null, 0);
         purse += cents;
         return done(number);
@@ -734,7 +738,7 @@ public final class CostumeStock {
         if (!isWithin(cents, 0, hire.deposit)) {
             return refuse(BAD_NUMBER);
         }
-        remember(new Move(hire.thing, purse, hire));
+        remember(new Move(hire.thing, purse, hire, HIRE_OPEN));
         hire.stage = HIRE_BACK;
         hire.thing.moveTo(IN_SLOT, into, s);
         int gone = hire.deposit - cents;
@@ -1139,6 +1143,7 @@ public final class CostumeStock {
         Hire(Thing thing, int deposit) {
             this.thing = thing;
             this.deposit = deposit;
+            this.stage = HIRE_OPEN;
         }
     }
 
@@ -1147,6 +1152,7 @@ public final class CostumeStock {
         abstract void revert(CostumeStock stock);
     }
 
+    /** Of put() and take(), without a HIRE; of hire() and back(), with the stage at which undo() leaves it. */
     private static final class Move extends Change {
         final Thing thing;
         final int state;
@@ -1156,17 +1162,16 @@ public final class CostumeStock {
         final Hire hire;
         final int stage;
 
-        Move(Thing thing, int purse, Hire hire) {
+        Move(Thing thing, int purse, Hire hire, int stage) {
             this.thing = thing;
             this.state = thing.state;
             this.home = thing.home;
             this.slot = thing.slot;
             this.purse = purse;
             this.hire = hire;
-            this.stage = hire == null ? HIRE_OPEN : hire.stage;
+            this.stage = stage;
         }
 
-        @Override
         void revert(CostumeStock stock) {
             thing.moveTo(state, home, slot);
             stock.purse = purse;
@@ -1193,7 +1198,6 @@ public final class CostumeStock {
             this.spent = spent;
         }
 
-        @Override
         void revert(CostumeStock stock) {
             garment.sizes[part] = size;
             garment.ins[part] = in;
@@ -1213,7 +1217,6 @@ public final class CostumeStock {
             this.before = actor.measures[part];
         }
 
-        @Override
         void revert(CostumeStock stock) {
             actor.measures[part] = before;
         }
@@ -1229,12 +1232,13 @@ public final class CostumeStock {
         int offerCount;
         final int[] dressing = new int[MOST_OFFERS];
         final int[][] costs = new int[MOST_ROLES][MOST_OFFERS];
+        final int[][] cheap = new int[MOST_ROLES][MOST_OFFERS];
+        final int[] cheapCount = new int[MOST_ROLES];
         final int[][] gaps = new int[MOST_ROLES][MOST_ROLES];
         final int[] groups = new int[MOST_ROLES];
         final int[] order = new int[MOST_ROLES];
         final int[] rest = new int[MOST_ROLES + 1];
         final int[] trial = new int[MOST_ROLES];
-        final int[] best = new int[MOST_ROLES];
         int bestCost;
         final int[] given = new int[MOST_ROLES];
         int givenCount;
@@ -1280,35 +1284,54 @@ public final class CostumeStock {
                 fillGaps(r);
             }
             fillOrder();
-            // What the later ROLES cost at least by themselves cuts the search of all from the next one on.
+            // What the later ROLES cost at least, by themselves, cuts the search of all from the one before.
             rest[roleCount] = 0;
             for (int from = roleCount - 1; from >= 0; from--) {
                 bestCost = NO_PLAN;
-                search(from, from, 0);
+                seekCheapest(from, from, 0);
+                rest[from] = bestCost;
                 if (bestCost == NO_PLAN) {
                     return NO_PLAN;
                 }
-                rest[from] = bestCost;
             }
             return rest[0];
         }
 
+        /** After solve(): of the PLANS of this cost that with the least THINGS becomes the one that is given. */
         void keepAnswer(int cost) {
-            givenCount = cost == NO_PLAN ? 0 : roleCount;
-            for (int at = 0; at < givenCount; at++) {
-                Thing thing = offers[best[at]];
+            givenCount = 0;
+            if (cost == NO_PLAN || !assign(0, cost)) {
+                return;
+            }
+            givenCount = roleCount;
+            for (int at = 0; at < roleCount; at++) {
+                Thing thing = offers[trial[at]];
                 given[order[at]] = thing == null ? -1 : thing.number;
             }
         }
 
         private void fillCosts(int r, Thing only) {
             Actor actor = actors[r];
+            cheapCount[r] = 0;
             for (int c = 0; c < offerCount; c++) {
                 Thing thing = offers[c];
                 boolean isAllowed = actor != null && thing != null && (only == null || thing == only);
                 boolean isGood = isAllowed && fitOf(actor, thing) == FIT_GOOD;
                 costs[r][c] = isGood ? costOf(actor, thing) : -1;
+                if (isGood) {
+                    insertCheap(r, c);
+                }
             }
+        }
+
+        private void insertCheap(int r, int c) {
+            int k = cheapCount[r];
+            while (k > 0 && costs[r][cheap[r][k - 1]] > costs[r][c]) {
+                cheap[r][k] = cheap[r][k - 1];
+                k--;
+            }
+            cheap[r][k] = c;
+            cheapCount[r]++;
         }
 
         /** The minutes between two ROLES of one ACTOR that has none between them; else -1. */
@@ -1373,20 +1396,40 @@ public final class CostumeStock {
             }
         }
 
-        private void search(int from, int at, int cost) {
+        private void seekCheapest(int from, int at, int cost) {
             if (at >= roleCount) {
                 bestCost = cost;
-                System.arraycopy(trial, 0, best, 0, roleCount);
                 return;
             }
             int r = order[at];
-            for (int c = 0; c < offerCount; c++) {
-                int here = costs[r][c];
-                if (here >= 0 && cost + here + rest[at + 1] < bestCost && !clashes(from, at, c)) {
+            for (int k = 0; k < cheapCount[r]; k++) {
+                int c = cheap[r][k];
+                int sum = cost + costs[r][c];
+                if (sum + rest[at + 1] >= bestCost) {
+                    return;
+                }
+                if (!clashes(from, at, c)) {
                     trial[at] = c;
-                    search(from, at + 1, cost + here);
+                    seekCheapest(from, at + 1, sum);
                 }
             }
+        }
+
+        private boolean assign(int at, int costLeft) {
+            if (at >= roleCount) {
+                return true;
+            }
+            int r = order[at];
+            for (int c = 0; c < offerCount; c++) {
+                int left = costLeft - costs[r][c];
+                if (costs[r][c] >= 0 && left >= rest[at + 1] && !clashes(0, at, c)) {
+                    trial[at] = c;
+                    if (assign(at + 1, left)) {
+                        return true;
+                    }
+                }
+            }
+            return false;
         }
 
         private boolean clashes(int from, int at, int c) {
