@@ -241,9 +241,6 @@ public final class HiresTest {
         x.wear(2);
         x.size(0, 1, 100);
         x.reach(0, 1, 9, 9);
-        Due.refused(x, "undo() twice and once more", x.undo() + x.undo() + x.undo() - 2, 11);
-        x.size(0, 1, 100);
-        x.reach(0, 1, 9, 9);
         x.alter(0, 1, 2);
         Due.answer("34: spent()", x.spent(), 10);
         x.alter(0, 1, -2);
