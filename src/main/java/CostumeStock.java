@@ -753,9 +753,6 @@ public final class CostumeStock {
         if (into.isSet() && thing.kind > MASK) {
             return WRONG_KIND;
         }
-        if (thing.kind != TRUNK || !into.isTrunk()) {
-            return DONE;
-        }
         boolean tooDeep = trunksUp(into) + trunksDown(thing, 1) > MOST_TRUNKS_DEEP;
         return tooDeep || isWayUpThrough(into, thing) ? TRUNK_IN_TRUNK : DONE;
     }
@@ -1064,10 +1061,7 @@ public final class CostumeStock {
         }
 
         boolean canAlter(int part, int steps) {
-            // Any more steps could wrap the sums around.
-            if (!isWithin(steps, -MOST_SIZE, MOST_SIZE)) {
-                return false;
-            }
+            // A SIZE that wraps around comes out below 1, so the sums behind it do not wrap.
             return isWithin(sizes[part] + steps, 1, MOST_SIZE)
                 && isWithin(ins[part] + steps, 0, MOST_SIZE)
                 && isWithin(outs[part] - steps, 0, MOST_SIZE);

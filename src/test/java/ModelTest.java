@@ -26,15 +26,19 @@ public final class ModelTest {
 
     public static void main(String[] args) throws Exception {
         List<Method[]> face = face();
-        for (int seed = 0; seed < 400; seed++) {
+        for (int seed = 0; seed < 700; seed++) {
             ModelTest test = new ModelTest(seed);
             test.start(seed);
-            for (int k = 0; k < 400 && test.isSame; k++) {
+            // With status() after each and digest() after every tenth they stay under 512.
+            for (int k = 1; k <= 205 && test.isSame; k++) {
                 test.callAny(face);
+                if (k % 10 == 0) {
+                    test.sameDigest();
+                }
             }
             test.tell("run " + seed);
         }
-        for (int seed = 0; seed < 1500; seed++) {
+        for (int seed = 0; seed < 2500; seed++) {
             ModelTest test = new ModelTest(1000000 + seed);
             test.planMuch();
             test.tell("plans " + seed);
@@ -82,8 +86,11 @@ public final class ModelTest {
         }
     }
 
-    private void sameState() {
+    private void sameStatus() {
         same("status()", stock.status(), model.status());
+    }
+
+    private void sameDigest() {
         same("digest()", stock.digest(), model.digest());
     }
 
@@ -106,6 +113,23 @@ public final class ModelTest {
         }
         same("row(7, 2)", stock.row(7, 2), model.row(7, 2));
         things = seed % 2 == 0 ? 12 : 19;
+        if (seed % 4 == 0) {
+            fitMasks();
+        }
+    }
+
+    /** So that there are fittings and PLANS from the start. */
+    private void fitMasks() {
+        for (int t = 0; t < 8; t++) {
+            int size = 100 + random.nextInt(6);
+            same("size()", stock.size(t, 0, size), model.size(t, 0, size));
+            same("reach()", stock.reach(t, 0, 10, 10), model.reach(t, 0, 10, 10));
+            same("put()", stock.put(0, t, t), model.put(0, t, t));
+        }
+        for (int a = 0; a < 2; a++) {
+            int measure = 500 + random.nextInt(30);
+            same("measure()", stock.measure(a, 0, measure), model.measure(a, 0, measure));
+        }
     }
 
     private Method[] pick(List<Method[]> face) {
@@ -123,7 +147,7 @@ public final class ModelTest {
         Object[] arguments = arguments(pair[0]);
         String call = pair[0].getName() + Arrays.toString(arguments);
         same(call, pair[0].invoke(stock, arguments), pair[1].invoke(model, arguments));
-        sameState();
+        sameStatus();
     }
 
     private Object[] arguments(Method method) {
@@ -162,7 +186,9 @@ public final class ModelTest {
                 return random.nextInt(4) - (name.equals("find") ? 1 : 0);
             case "size1": case "reach1": case "alter1": case "sizeOf1": case "measure1":
                 return random.nextInt(2) == 0 ? 0 : random.nextInt(6);
-            case "back0": case "role1": case "scene0":
+            case "back0":
+                return random.nextInt(5);
+            case "role1": case "scene0":
                 return random.nextInt(10);
             case "scene1": case "least0": case "dressOf0": case "wear0": case "find1": case "share1":
                 return random.nextInt(7);
@@ -177,7 +203,7 @@ public final class ModelTest {
     private void planMuch() {
         int slots = 9;
         same("rack(9)", stock.rack(slots), model.rack(slots));
-        int range = 1 + random.nextInt(8);
+        int range = random.nextInt(3) == 0 ? 1 : 1 + random.nextInt(8);
         int masks = random.nextInt(3);
         int number = 2 + random.nextInt(4);
         for (int t = 0; t < number; t++) {
@@ -204,7 +230,8 @@ public final class ModelTest {
             same("scene()", stock.scene(scene, minutes), model.scene(scene, minutes));
         }
         int last = 1 + random.nextInt(10);
-        for (int k = 0; k < 12; k++) {
+        int tries = 2 + random.nextInt(11);
+        for (int k = 0; k < tries; k++) {
             int a = random.nextInt(people);
             int scene = random.nextInt(last);
             same("role(" + a + ", " + scene + ")", stock.role(a, scene), model.role(a, scene));
@@ -215,6 +242,7 @@ public final class ModelTest {
             int t = random.nextInt(number);
             same("least(" + r + ", " + t + ")", stock.least(r, t), model.least(r, t));
         }
-        sameState();
+        sameStatus();
+        sameDigest();
     }
 }
