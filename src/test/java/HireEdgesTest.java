@@ -7,6 +7,7 @@ public final class HireEdgesTest {
         hiresAreNumberedFromZero();
         noNumberIsGivenTwice();
         asManyHiresAsCallsAllow();
+        threeHundredHiresBeyondTheLastCall();
         kindsZeroToFiveGoOut();
         whatIsInASlotGoesOut();
         goesOutOfAnySlot();
@@ -83,7 +84,7 @@ public final class HireEdgesTest {
 
     /**
      * "HIRES (..) 300 at most": a THING must come into a SLOT before each, so that 512 calls come to
-     * 254 of them, which all have room.
+     * 255 of them at most, which all have room.
      */
     private static void asManyHiresAsCallsAllow() {
         Run x = masks("as many HIRES as can be", 1);
@@ -91,13 +92,31 @@ public final class HireEdgesTest {
             x.is(hire, "hire", 0, 1000000);
             x.is(0, "back", hire, 0, 0, 1000000);
         }
-        x.is(254000000, "purse");
+        x.is(254, "hire", 0, 1000000);
         x = masks("as many HIRES as can be, undone", 1);
         for (int hire = 0; hire < 254; hire++) {
             x.is(hire, "hire", 0, 1);
             x.is(1, "undo");
         }
         x.is(0, "purse");
+    }
+
+    /** Beyond the 512th call answers are free. The class keeps to "300 at most" there too, so that no call can throw. */
+    private static void threeHundredHiresBeyondTheLastCall() {
+        CostumeStock x = new CostumeStock();
+        x.rack(1);
+        x.wear(3);
+        x.put(0, 0, 0);
+        for (int hire = 0; hire < 300; hire++) {
+            Due.answer("hire() " + hire, x.hire(0, 1), hire);
+            Due.answer("back() of it", x.back(hire, 0, 0, 1), 0);
+        }
+        for (int k = 0; k < 20; k++) {
+            Due.refused(x, "hire(), the 301st", x.hire(0, 1), 6);
+            Due.refused(x, "back(), the 301st", x.back(300, 0, 0, 0), 10);
+        }
+        Due.answer("purse()", x.purse(), 300);
+        Due.done(x, "state(0)", x.state(0), 1);
     }
 
     /** "A THING of KIND 0 to 5 that is in a SLOT goes OUT" - "(.. 4: ROWS ..)" */
@@ -355,6 +374,12 @@ public final class HireEdgesTest {
             x.is(1000000, "back", t, 0, t, 0);
         }
         x.gives(0, "purse");
+        x = masks("33: purse, all deposits stay", 1);
+        for (int hire = 0; hire < 254; hire++) {
+            x.is(hire, "hire", 0, 1000000);
+            x.is(0, "back", hire, 0, 0, 1000000);
+        }
+        x.is(254000000, "purse");
     }
 
     /** Promise 34: "What was spent on altering." */

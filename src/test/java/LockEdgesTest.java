@@ -404,10 +404,12 @@ public final class LockEdgesTest {
         Object[][] calls = {{0, "rack", 2}, {0, "wear", 3}, {1, "set"}, {2, "trunk", 1}, {3, "row", 7, 1}, {1, "write", 3, 0, 10},
             {1, "value", 3, 0}, {3, "kind", 0}, {0, "state", 0}, {1, "put", 0, 0, 0}, {0, "holder", 0}, {0, "inside", 0, 0},
             {0, "take", 0, 0}, {1, "put", 0, 1, 0}, {0, "size", 0, 0, 100}, {1, "reach", 0, 0, 9, 9}, {5, "alter", 0, 0, 1},
-            {101, "sizeOf", 0, 0, 0}, {0, "actor"}, {1, "measure", 0, 0, 505}, {1, "fits", 0, 0}, {0, "cost", 0, 0},
-            {3, "minutes", 0}, {1, "wash", 1}, {0, "role", 0, 0}, {0, "scene", 0, 1}, {0, "plan"}, {0, "dressOf", 0},
+            {101, "sizeOf", 0, 0, 0}, {10, "sizeOf", 0, 0, 1}, {8, "sizeOf", 0, 0, 2}, {0, "actor"}, {1, "measure", 0, 0, 505},
+            {1, "fits", 0, 0}, {2, "fits", 0, 1}, {0, "cost", 0, 0}, {3, "minutes", 0}, {0, "minutes", 1}, {1, "wash", 1},
+            {4, "wear", 1}, {5, "wash", 4}, {0, "role", 0, 0}, {0, "scene", 0, 1}, {0, "plan"}, {0, "dressOf", 0},
             {0, "least", 0, 0}, {0, "hire", 0, 5}, {2, "back", 0, 0, 0, 3}, {3, "share", 0, 1}, {0, "find", -1, 3},
-            {1, "count", 0}, {1, "undo"}, {0, "locks", 2}};
+            {1, "count", 0}, {1, "undo"}, {10, "locks", 0}, {10, "locks", 1}, {0, "locks", 2}, {1, "write", 3, 0, -2},
+            {BIG, "value", 3, 0}, {5, "row", 6, 1}, {0, "value", 5, 0}};
         for (Object[] call : calls) {
             x.refused(7, "share", 0, 0);
             int[] args = new int[call.length - 2];

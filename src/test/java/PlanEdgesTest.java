@@ -18,6 +18,7 @@ public final class PlanEdgesTest {
         scenesLastZeroToNinety();
         wearStandsOnARackItself();
         wearStandsAnywhereOnRacks();
+        theLastOf200Things();
         theFirstEightByNumbers();
         theEightAreWearAlone();
         theEightAreChosenBeforeTheyFit();
@@ -220,6 +221,25 @@ public final class PlanEdgesTest {
                 x.done("take", r, s);
             }
         }
+    }
+
+    /** The same with all 200 THINGS: the last of them alone is in a SLOT of a RACK, and none. */
+    private static void theLastOf200Things() {
+        Run x = new Run("the last of 200 THINGS");
+        x.done("rack", 1);
+        for (int t = 0; t < 200; t++) {
+            x.done("wear", 3);
+        }
+        x.done("size", 199, 0, 100);
+        actors(x, 100);
+        x.done("role", 0, 0);
+        x.refused(12, "plan");
+        x.refused(12, "least", 0, 199);
+        x.done("put", 0, 0, 199);
+        x.gives(0, "plan");
+        dresses(x, 199);
+        x.gives(0, "least", 0, 199);
+        x.refused(10, "least", 0, 200);
     }
 
     /** "the first 8 of these by THINGS' numbers" */
@@ -649,6 +669,12 @@ public final class PlanEdgesTest {
         x.done("role", 1, 2);
         x.done("role", 0, 2);
         x.done("scene", 1, 3);
+        x.gives(0, "plan");
+        dresses(x, 0, 0, 1);
+        x.done("clear");
+        x.done("role", 0, 0);
+        x.done("role", 0, 2);
+        x.done("role", 1, 2);
         x.gives(0, "plan");
         dresses(x, 0, 0, 1);
     }

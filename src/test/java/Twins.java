@@ -1,8 +1,10 @@
 import java.util.List;
 
 /**
- * Two objects with the same run behind them, the second with a refused call more: whatever is asked
- * then, both answer it alike. The LOCKS of the refused call are the only thing that differs.
+ * Terms 6: "A refused call answers -1 and changes nothing but this." - two objects with the same run
+ * behind them, the second with a refused call more: whatever is asked then, both answer it alike. What
+ * may differ is what the document says of it elsewhere: the LOCKS that it took (Terms 5), and after a
+ * refused plan() the PLAN of before (promise 28).
  */
 final class Twins {
     private static final int MOST_THINGS_ASKED = 12;

@@ -19,6 +19,7 @@ public final class UndoEdgesTest {
         otherThingsStayAsTheyAre();
         aHiresNumberIsNotGivenAgain();
         allThatAreNested();
+        moreThanCanBeTakenBack();
         Due.end();
     }
 
@@ -323,6 +324,21 @@ public final class UndoEdgesTest {
         x.gives(0, "purse");
         x.gives(5, "hire", 2, 1);
         x.gives(0, "back", 5, 0, 1, 1);
+    }
+
+    /** Beyond the 512th call answers are free; still no call throws, however much was done or is taken back. */
+    private static void moreThanCanBeTakenBack() {
+        CostumeStock x = new CostumeStock();
+        x.wear(3);
+        for (int k = 0; k < 1500; k++) {
+            Due.answer("size(0, 0, 1), often", x.size(0, 0, 1) < 0 ? 1 : 0, 0);
+        }
+        int n = 0;
+        while (n < 2000 && x.undo() == 1) {
+            n++;
+        }
+        Due.answer("undo() comes to an end", n < 2000 ? 1 : 0, 1);
+        Due.answer("status()", x.status(), 11);
     }
 
     /** TRUNKS in one another are taken back as they were put, out and back. */
